@@ -72,8 +72,8 @@ public final class PegBands {
     private static final int CROSSING = 1;
     private static final int TOUCH = 2;
 
-    private final Bytes tape = new Bytes(TAPE_MOST);
-    private final Reader reader = new Reader(tape);
+    private final Reader reader = new Reader();
+    private final Bytes tape = reader.tape;
     private final Table now = new Table();
     private final Table draft = new Table();
     private final Table[] images = new Table[IMAGES];
@@ -612,7 +612,7 @@ public final class PegBands {
 
     /** Reads the tape token by token; the first fault stays, and nothing is read behind it. */
     private static final class Reader {
-        final Bytes tape;
+        final Bytes tape = new Bytes(TAPE_MOST);
         int most = 0;
         int next = 0;
         int start = 0;
@@ -621,10 +621,6 @@ public final class PegBands {
         long name = 0;
         int fault = 0;
         int place = 0;
-
-        Reader(Bytes tape) {
-            this.tape = tape;
-        }
 
         void open(int mostBytes) {
             most = mostBytes;

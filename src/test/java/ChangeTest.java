@@ -127,6 +127,18 @@ public final class ChangeTest {
         }
         Check.due("none is", x.undo(), -1);
         Check.due("the oldest two stay done", pegsOf(x, 1), "4 6 24");
+        PegBands y = Check.on("board 10 10;band a 0 0 1 0 0 9;");
+        for (int i = 1; i <= 9; i++) {
+            Check.due("move " + i, y.move(0, 2, 90 + i), 0);
+        }
+        for (int i = 8; i >= 1; i--) {
+            Check.due("undo of many", y.undo(), i - 1);
+            Check.due("as it was ahead of it", y.corner(0, 2), 90 + i);
+        }
+        Check.due("no more", y.undo(), -1);
+        Check.due("move anew", y.move(0, 2, 90), 0);
+        Check.due("undo it", y.undo(), 0);
+        Check.due("as it was", y.corner(0, 2), 91);
         Check.due("calls", Check.calls(x, "at 5 4;by 2 0;by -1 2;by -1 -2;"), 3);
         Check.due("move", x.move(0, 2, 33), 0);
         Check.due("lay", x.lay(), 0);

@@ -62,6 +62,7 @@ public final class FindTest {
         Check.due("smallest(3, -1)", x.smallest(3, -1), -1);
         Check.due("smallest(1000, 0)", x.smallest(1000, 0), -1);
         Check.due("smallest(3, 1000)", x.smallest(3, 1000), -1);
+        Check.due("smallest of one alone", Check.on("board 2 2;out 0 0;").smallest(3, 0), 1);
         Check.due("smallest of the largest", Check.on("board 10 10;").smallest(27, 28), 81);
     }
 
@@ -105,6 +106,10 @@ public final class FindTest {
         Check.due("no such one", moved(two, 0, 3), -1);
         Check.due("no such one", moved(two, -1, 0), -1);
         Check.due("no such one", moved(two, MOST, LEAST), -1);
+        PegBands snapped = Check.on(two);
+        Check.due("snap", snapped.snap(2), 0);
+        Check.due("one that snapped", snapped.moved(0, 2), -1);
+        Check.due("one that snapped", snapped.moved(2, 0), -1);
         String four = "board 6 6;bell;band a 0 0 1 0 0 1;band b 5 0 4 0 5 1;band q 0 0 1 0 1 1 0 1;band e 1 0 0 1 2 2;";
         Check.due("four corners", moved(four, 0, 2), -1);
         Check.due("four corners", moved(four, 2, 0), -1);

@@ -58,6 +58,11 @@ public final class SentenceTest {
         said(x, "right=0", 1, "3");
         said(x, "right>3", 1, "0");
         said(x, "area<999", 1, "0123");
+        PegBands y = Check.on("board 10 10;bell;band a 0 0 9 0 0 9;band b 0 0 9 0 0 8;band c 0 0 9 0 0 7;"
+            + "band d 0 0 9 0 0 6;band e 0 0 9 0 0 5;band f 0 0 9 0 0 4;band g 0 0 9 0 0 3;band h 0 0 9 0 0 2;");
+        for (int b = 0; b < 8; b++) {
+            said(y, "alike " + (char) ('a' + b), 1, "" + b);
+        }
         said(x, "area=0", 1, "");
     }
 

@@ -227,6 +227,9 @@ public final class TextTest {
         wrong(HEAD + ONE + "band b 1 0 2 0 1 2;", 5);
         wrong(HEAD + "band a 0 0 4 0 0 4;band b 2 2 4 2 4 4;", 5);
         wrong(HEAD + ONE + "band b 4 4 3 4 4 3;band c 0 0 3 0 0 3;", 5);
+        // One point alone in common: a corner on the first side of the new one, of the old one.
+        wrong(HEAD + "band a 2 2 3 4 1 4;band b 0 2 4 2 2 0;", 5);
+        wrong(HEAD + "band a 0 2 4 2 2 4;band b 2 2 1 0 3 0;", 5);
         Check.on(HEAD + "band a 0 0 4 0 0 4;band b 1 1 2 1 1 2;");
         Check.on(HEAD + "bell;" + ONE + "band b 0 0 1 0 0 1;");
         Check.on(HEAD + ONE + "bell;band b 0 0 1 0 0 1;");
