@@ -1,18 +1,32 @@
 import java.util.NoSuchElementException;
 
-/** What the tests share: counting wrong answers, and telling texts. */
+/** What the tests share: counting wrong answers, telling texts, and all that an object tells of itself. */
 final class Check {
+    static final int LEAST = Integer.MIN_VALUE;
+    static final int MOST = Integer.MAX_VALUE;
+
     private static int wrong = 0;
     private static int looked = 0;
+    private static String part = "";
+
+    /** What is done to an object. */
+    interface Act {
+        void on(PegBands x);
+    }
 
     private Check() {
+    }
+
+    /** Which sentence of the document the answers from here on speak of. */
+    static void part(String sentence) {
+        part = sentence + ": ";
     }
 
     static void due(String what, long got, long want) {
         looked++;
         if (got != want) {
             wrong++;
-            System.out.println(what + " answered " + got + ", due is " + want);
+            System.out.println(part + what + " answered " + got + ", due is " + want);
         }
     }
 
@@ -24,7 +38,7 @@ final class Check {
         looked++;
         if (!got.equals(want)) {
             wrong++;
-            System.out.println(what + " answered '" + got + "', due is '" + want + "'");
+            System.out.println(part + what + " answered '" + got + "', due is '" + want + "'");
         }
     }
 
@@ -105,5 +119,100 @@ final class Check {
 
     static String blanks(int n) {
         return " ".repeat(n);
+    }
+
+    /** Corners of all bands, one row behind another. */
+    static String bands(PegBands x) {
+        StringBuilder s = new StringBuilder();
+        for (int b = 0; x.corner(b, 0) != -1; b++) {
+            s.append(corners(x, b)).append(';');
+        }
+        return s.toString();
+    }
+
+    static String corners(PegBands x, int b) {
+        StringBuilder s = new StringBuilder();
+        for (int i = 0; x.corner(b, i) != -1; i++) {
+            s.append(i == 0 ? "" : " ").append(x.corner(b, i));
+        }
+        return s.toString();
+    }
+
+    /** Board, bands, calls, lines and sentence, as far as questions tell them. */
+    static String told(PegBands x) {
+        StringBuilder s = new StringBuilder("counts");
+        for (int what = 0; what < 7; what++) {
+            s.append(' ').append(x.count(what));
+        }
+        s.append(" pegs ");
+        for (int y = 0; y < x.count(1); y++) {
+            for (int z = 0; z < x.count(0); z++) {
+                s.append(x.peg(10 * y + z));
+            }
+        }
+        s.append(" bands ").append(bands(x)).append(" closes ").append(x.closes()).append(" mended");
+        for (int k = -1; k < 3; k++) {
+            s.append(' ').append(x.mended(k));
+        }
+        s.append(" lines ").append(x.lines(-1)).append(' ').append(x.lines(0)).append(" said");
+        for (int k = -1; k < 3; k++) {
+            s.append(' ').append(x.said(k));
+        }
+        return s.toString();
+    }
+
+    /**
+     * What is there but the tape and the latest fault: it is found by changing it, so the object is used up.
+     * The last things told, what the calls lay, what can be undone, and both images.
+     */
+    static String rest(PegBands x) {
+        StringBuilder s = new StringBuilder(told(x));
+        s.append(" form");
+        for (int i = 0; i < 17; i++) {
+            s.append(' ').append(x.formAt(i));
+        }
+        s.append(" text ");
+        for (int i = 0; x.byteAt(i) != -1; i++) {
+            s.append((char) x.byteAt(i));
+        }
+        s.append(" lay ").append(x.lay()).append(' ').append(bands(x));
+        int more = 0;
+        for (int i = 0; i < 10 && more != -1; i++) {
+            more = x.undo();
+            s.append(" undo ").append(more).append(' ').append(bands(x));
+        }
+        for (int k = 0; k < 2; k++) {
+            s.append(" restore ").append(x.restore(k)).append(' ').append(told(x));
+        }
+        return s.toString();
+    }
+
+    /** All of it: the latest fault, what its band was wrong by, and the tape, which is read as a sentence, too. */
+    static String whole(PegBands x) {
+        String first = "fault " + x.fault() + " why " + x.why() + " tape " + x.count(7) + ' ' + rest(x);
+        return first + " read " + x.sentence() + " fault " + x.fault();
+    }
+
+    /** Two objects are made alike, and one of them is asked for what is refused: both stay alike. */
+    static void changesNothing(String what, Act made, Act refused) {
+        PegBands x = new PegBands();
+        PegBands y = new PegBands();
+        made.on(x);
+        made.on(y);
+        refused.on(x);
+        due(what + " changes nothing", whole(x), whole(y));
+    }
+
+    /** A board of 8 pegs with a band that was moved, calls that can be laid, a line, a sentence, an image. */
+    static void makeRich(PegBands x) {
+        due("rich board", board(x, "board 3 3;out 2 2;band a 0 0 1 0 0 1;"), 3);
+        due("rich calls", calls(x, "at 1 1;by 1 0;by -1 1;by 0 -1;"), 3);
+        due("rich sentence", sentence(x, "alike a or bent"), 2);
+        due("rich image", x.image(1), true);
+        due("rich move", x.move(0, 2, 20), 0);
+        due("rich slide", x.slide(0, 0, 0), 0);
+        due("rich line", x.line(11, 12), true);
+        due("rich text", x.write(0), 30);
+        due("rich form", x.form(0, 0), 6);
     }
 }
