@@ -145,10 +145,11 @@ final class Check {
             s.append(' ').append(x.count(what));
         }
         s.append(" pegs ");
-        for (int y = 0; y < x.count(1); y++) {
-            for (int z = 0; z < x.count(0); z++) {
-                s.append(x.peg(10 * y + z));
-            }
+        // An object answers 512 calls, so each of them counts.
+        int w = x.count(0);
+        int h = x.count(1);
+        for (int i = 0; i < w * h; i++) {
+            s.append(x.peg(10 * (i / w) + i % w));
         }
         s.append(" bands ").append(bands(x)).append(" closes ").append(x.closes()).append(" mended");
         for (int k = -1; k < 3; k++) {

@@ -110,6 +110,21 @@ public final class EdgeBandTest {
         for (int[] by : inside) {
             Check.due("slide to the edge", x.slide(0, by[0], by[1]), 0);
         }
+        // Where rows have ten pegs, the number beyond a row's end is that of a peg in another row.
+        PegBands wide = Check.on("board 10 10;bell;band a 8 1 9 1 9 3;band b 0 4 1 4 0 6;band c 8 8 9 8 9 9;");
+        Check.due("beyond the right end", wide.slide(0, 1, 0), 1);
+        Check.due("beyond the left end", wide.slide(1, -1, 0), 1);
+        Check.due("beyond the last row", wide.slide(2, 0, 1), 1);
+        Check.due("beyond the first row", wide.slide(0, 0, -2), 1);
+        Check.due("to the first row", wide.slide(0, 0, -1), 0);
+        Check.due("to the last row", wide.slide(1, 0, 3), 0);
+        Check.due("to the last column", wide.slide(1, 8, 0), 0);
+        Check.due("from the last row", wide.slide(2, -8, -8), 0);
+        Check.due("bands", Check.bands(wide), "8 9 29;78 79 98;0 1 11;");
+        lays("board 10 10;", "9 1 10 1 9 3", 1);
+        lays("board 10 10;", "0 4 -1 5 1 6", 1);
+        lays("board 10 10;", "9 9 9 10 8 9", 1);
+        lays("board 10 10;", "0 0 1 -1 2 0", 1);
     }
 
     private static void wrongTwo() {
@@ -243,6 +258,29 @@ public final class EdgeBandTest {
         Check.due("one out is within", x.over(11, 0), 1);
         Check.due("a corner is not", x.over(0, 0), 0);
         Check.due("a place on a side is not", x.over(1, 0), 0);
+        // Place by place: + within, o on it, . neither.
+        map("0 4 4 1 9 0 6 5 8 9 2 7", ".........o ....o++++. ...+++++.. ..++++++.. o++++++... "
+            + ".+++++o... ..+++++... ..o++++o.. .....o++.. ........o.");
+        map("0 3 9 5 0 9", ".......... .......... .......... o......... o++++..... "
+            + "o++++++++o o++++++... o++++..... o++....... o.........");
+        map("0 0 2 2 4 0 6 2 8 0 9 9 0 9", "o...o...o. oo.o+o.o+. o+o+++o++. o++++++++. o++++++++. "
+            + "o++++++++. o++++++++. o++++++++. o++++++++. oooooooooo");
+    }
+
+    /** What over() tells of each place of a board of ten by ten, row by row; band() and free() count as many. */
+    private static void map(String corners, String due) {
+        PegBands x = one(corners);
+        StringBuilder s = new StringBuilder();
+        for (int at = 0; at < 100; at++) {
+            s.append(at > 0 && at % 10 == 0 ? " " : "");
+            s.append(x.over(at, 0) == 1 ? '+' : x.over(at, 1) == 1 ? 'o' : '.');
+        }
+        Check.due("places of " + corners, s.toString(), due);
+        Check.due("ON of " + corners, x.band(0, 2), due.length() - due.replace("o", "").length());
+        Check.due("WITHIN of " + corners, x.band(0, 3), due.length() - due.replace("+", "").length());
+        int free = due.length() - due.replace(".", "").length();
+        Check.due("free pegs about " + corners, x.free(), free);
+        Check.due("pegs in " + corners, x.snap(0), 100 - free);
     }
 
     private static void square() {
@@ -424,8 +462,14 @@ public final class EdgeBandTest {
         writes("1 4 4 4 2 1 0 0", "at 1 4;by -1 -4;by 2 1;by 2 3;by -3 0;");
         // 0 has no sign.
         writes("0 0 9 0 9 9 0 9", "at 0 0;by 9 0;by 0 9;by -9 0;by 0 -9;");
-        // The longest text.
         writes("9 9 9 0 0 0 0 9 3 9 3 3 6 3 6 9", "at 9 9;by 0 -9;by -9 0;by 0 9;by 3 0;by 0 -6;by 3 0;by 0 6;by 3 0;");
+        // Signs of X and of Y count alike: 3 and 1 of them one way, 1 and 4 the other; and so with X for Y.
+        writes("3 0 2 1 1 3 0 6 3 7", "at 3 0;by -1 1;by -1 2;by -1 3;by 3 1;by 0 -7;");
+        writes("3 7 0 6 1 3 2 1 3 0", "at 3 7;by 0 -7;by -1 1;by -1 2;by -1 3;by 3 1;");
+        writes("0 3 1 2 3 1 6 0 7 3", "at 0 3;by 1 -1;by 2 -1;by 3 -1;by 1 3;by -7 0;");
+        writes("7 3 6 0 3 1 1 2 0 3", "at 7 3;by -7 0;by 1 -1;by 2 -1;by 3 -1;by 1 3;");
+        // The longest text: each of 16 numbers leads back on one of the two ways, 8 on either.
+        writes("3 0 5 1 6 3 5 5 3 6 1 5 0 3 1 1", "at 3 0;by 2 1;by 1 2;by -1 2;by -2 1;by -2 -1;by -1 -2;by 1 -2;by 2 -1;");
     }
 
     private static void shortestOfLikeOnes() {

@@ -540,8 +540,17 @@ public final class EdgeFirstTest {
         for (int i = 0; i < 8; i++) {
             s.append("band ").append((char) ('a' + i)).append(" 0 0 1 0 0 ").append(i + 1).append(';');
         }
+        for (int b = 0; b < 8; b++) {
+            PegBands x = Check.on(s.toString());
+            StringBuilder due = new StringBuilder();
+            for (int i = 0; i < 8; i++) {
+                due.append(i == b ? "" : "0 1 " + 10 * (i + 1) + ";");
+            }
+            Check.due("snap(" + b + ") of eight", x.snap(b), b == 7 ? 1 : 0);
+            Check.due("bands", Check.bands(x), due.toString());
+        }
         PegBands eight = Check.on(s.toString());
-        // The last one's peg 8 0 is in no other.
+        // The last one's peg 0 8 is in no other.
         Check.due("the eighth", eight.snap(7), 1);
         Check.due("the first", eight.snap(0), 0);
         Check.due("six are left", eight.count(2), 6);
@@ -570,6 +579,17 @@ public final class EdgeFirstTest {
         PegBands x = Check.on("board 5 5;band a 0 0 1 0 0 1;");
         Check.due("snap", x.snap(0), 3);
         none("no more", x.snap(0));
+        // The last of two snaps: its number is none's in any call.
+        PegBands y = Check.on("board 5 5;band a 0 0 1 0 0 1;band b 3 3 4 3 3 4;");
+        Check.due("snap", y.snap(1), 3);
+        int[] answers = {y.corner(1, 0), y.side(1, 0), y.cross(0, 1, 0), y.cross(1, 0, 1), y.in(0, 1), y.in(1, 0), y.alike(0, 1, 0),
+            y.alike(1, 0, 2), y.form(1, 0), y.move(1, 0, 0), y.slide(1, 0, 0), y.snap(1), y.rim(1, 0), y.even(1, 0), y.wide(1),
+            y.write(1), y.cuts(1, -1), y.moved(0, 1), y.moved(1, 0), y.moved(1, 1)};
+        for (int i = 0; i < answers.length; i++) {
+            none("answer " + i + " for a number that snapped", answers[i]);
+        }
+        Check.due("band(1, 0) throws", Check.throwsNoSuch(y, 1, 0), true);
+        Check.due("in no place", y.over(33, 1), 0);
     }
 
     private static void undoEight() {

@@ -1,3 +1,9 @@
+import java.util.ArrayList;
+import java.util.Arrays;
+import java.util.List;
+import java.util.Map;
+import java.util.TreeMap;
+
 /**
  * The boundaries in part 3 of the document's "Terms" (triangles, cuts, moves, the game, sentences) and in the two rows
  * behind it. Each part names its sentence.
@@ -20,6 +26,7 @@ public final class EdgePlayTest {
         movedNotInLine();
         movedNeverMindOthers();
         movedWhichever();
+        movedFewest();
         gamePegs();
         gameEnds();
         gameNoPlaceBetween();
@@ -63,6 +70,12 @@ public final class EdgePlayTest {
         Check.due("two pegs", triangles(Check.on("board 2 2;out 1 0;out 0 1;"), 3, 0), "");
         Check.due("no peg", triangles(Check.on("board 2 2;out 0 0;out 1 0;out 0 1;out 1 1;"), 3, 0), "");
         Check.due("the last pegs", triangles(Check.on("board 10 10;"), 27, 28), "990 999 9099 99099");
+        // Counted by another program, over all 157252 of them.
+        PegBands whole = Check.on("board 10 10;");
+        int[][] many = {{3, 0, 5852}, {4, 0, 8376}, {3, 1, 1896}, {11, 0, 396}, {12, 4, 904}, {3, 39, 8}, {3, 38, 8}, {3, 40, 0}};
+        for (int[] row : many) {
+            Check.due("of " + row[0] + ", " + row[1], whole.triangles(row[0], row[1], -1), row[2]);
+        }
     }
 
     private static void trianglesNotInLine() {
@@ -118,7 +131,7 @@ public final class EdgePlayTest {
 
     private static void cutsInside() {
         Check.part("Terms 3, CUTS: all inside of it but its ends");
-        // Over the bay none goes, though the lines from side to side would share it.
+        // From 0 3 to 6 3 the line has 12 on either hand, but it lies on the side of the bay between.
         cuts("0 0 2 0 2 3 4 3 4 0 6 0 6 5 0 5", "3254 3353 3452");
         // From 2 2, a corner bent in, to 2 4 it shares evenly; from 2 0 or 2 1 it would lie on a side first.
         PegBands step = one("0 0 2 0 2 2 6 2 6 4 0 4");
@@ -128,11 +141,55 @@ public final class EdgePlayTest {
         // The line from 4 0 to 4 8 has 24 on either hand, but it touches the corner at 4 4.
         String touched = " " + cuts(one("1 0 8 0 8 2 4 4 8 6 8 8 1 8")) + " ";
         Check.due("touching a corner", touched.contains(" 484 "), false);
+        String[] shapes = {"0 0 2 0 2 3 4 3 4 0 6 0 6 5 0 5", "0 0 2 0 2 2 6 2 6 4 0 4", "1 0 8 0 8 2 4 4 8 6 8 8 1 8",
+            "0 0 2 1 4 0 2 4", "0 0 0 4 4 4 4 2 2 2 2 0", "0 0 4 0 4 3 0 3 0 2 3 2 3 1 0 1"};
+        for (String shape : shapes) {
+            everyWay(shape);
+        }
         // The same without a bay is shared by such a line.
         String free = " " + cuts(one("0 0 8 0 8 8 0 8")) + " ";
         Check.due("touching none", free.contains(" 484 "), true);
+        // Slim ones in the last rows: a little above or below its middle the line would be outside.
+        cuts("0 8 2 8 2 9 0 9", "8092 8191 8290");
+        cuts("1 8 1 9 3 9", "8192");
         // A side is no cut, and neither is a line outside of it from tip to tip.
         cuts("0 0 2 1 4 0 2 4", "1242");
+    }
+
+    /** A band's cuts are the same lines, whatever corner it is told from, either way round, and wherever it lies. */
+    private static void everyWay(String corners) {
+        String[] n = corners.split(" ");
+        int many = n.length / 2;
+        int right = 0;
+        int low = 0;
+        for (int i = 0; i < many; i++) {
+            right = Math.max(right, Integer.parseInt(n[2 * i]));
+            low = Math.max(low, Integer.parseInt(n[2 * i + 1]));
+        }
+        String due = sorted(one(corners), 0);
+        for (int first = 0; first < 4 * many; first++) {
+            boolean isFar = first % 2 == 1;
+            int way = first / 2 % 2 == 0 ? 1 : many - 1;
+            StringBuilder s = new StringBuilder();
+            for (int i = 0; i < many; i++) {
+                int c = (first / 4 + way * i) % many;
+                s.append(i == 0 ? "" : " ").append(Integer.parseInt(n[2 * c]) + (isFar ? 9 - right : 0));
+                s.append(' ').append(Integer.parseInt(n[2 * c + 1]) + (isFar ? 9 - low : 0));
+            }
+            Check.due("lines of " + s, sorted(one(s.toString()), isFar ? 10 * (9 - low) + 9 - right : 0), due);
+        }
+    }
+
+    /** The cuts as lines, each from its lesser peg number, slid back by so much, rising. */
+    private static String sorted(PegBands x, int slid) {
+        int[] lines = new int[x.cuts(0, -1)];
+        for (int k = 0; k < lines.length; k++) {
+            int a = x.cuts(0, k) / 100 - slid;
+            int b = x.cuts(0, k) % 100 - slid;
+            lines[k] = 100 * Math.min(a, b) + Math.max(a, b);
+        }
+        Arrays.sort(lines);
+        return Arrays.toString(lines);
     }
 
     private static void cutsOfLikeArea() {
@@ -198,6 +255,13 @@ public final class EdgePlayTest {
         Check.due("one out between", moved("board 4 2;out 1 0;out 2 1;bell;band a 0 0 0 1 1 1;band b 2 0 3 0 3 1;", 0, 1), -1);
         Check.due("parted", moved("board 5 2;out 2 0;out 2 1;band a 0 0 1 0 0 1;band b 3 0 4 0 3 1;", 0, 1), -1);
         Check.due("a way round", moved("board 5 3;out 2 0;out 2 1;band a 0 0 1 0 0 1;band b 3 0 4 0 3 1;", 0, 1) > 9, true);
+        // A larger board ahead of it leaves no pegs behind.
+        PegBands x = Check.on("board 6 6;band a 0 0 1 0 0 1;band b 3 0 4 0 3 1;");
+        Check.due("on a larger one", x.moved(0, 1), 9);
+        Check.due("a smaller one", Check.board(x, "board 5 2;out 2 0;out 2 1;band a 0 0 1 0 0 1;band b 3 0 4 0 3 1;"), 5);
+        Check.due("parted", x.moved(0, 1), -1);
+        Check.due("one of as many places", Check.board(x, "board 9 4;band a 0 0 1 0 0 1;band b 8 3 7 3 8 2;"), 3);
+        Check.due("across it", x.moved(0, 1) > 0, true);
     }
 
     private static void movedNotInLine() {
@@ -231,6 +295,90 @@ public final class EdgePlayTest {
         Check.due("itself", moved("board 6 6;band a 0 0 5 0 0 5;", 0, 0), 0);
     }
 
+    private static void movedFewest() {
+        Check.part("Terms 3, MOVED: the fewest moves");
+        fewest(3, 3, "");
+        fewest(4, 3, "out 1 1;out 3 0;");
+        fewest(2, 5, "out 0 2;");
+    }
+
+    /** From the first triangle of a board to each other one, counted move by move. */
+    private static void fewest(int w, int h, String outs) {
+        PegBands x = Check.on("board " + w + " " + h + ";" + outs);
+        boolean[] pegs = new boolean[100];
+        for (int at = 0; at < 100; at++) {
+            pegs[at] = x.peg(at) == 1;
+        }
+        List<String> edge = new ArrayList<>();
+        Map<String, Integer> seen = new TreeMap<>();
+        String first = null;
+        for (int code = 0; code < 1000000; code++) {
+            String three = three(pegs, code / 10000, code / 100 % 100, code % 100);
+            if (three != null && first == null) {
+                first = three;
+                edge.add(three);
+                seen.put(three, 0);
+            }
+            if (three != null && !seen.containsKey(three)) {
+                seen.put(three, -1);
+            }
+        }
+        for (int moves = 1; !edge.isEmpty(); moves++) {
+            List<String> next = new ArrayList<>();
+            for (String from : edge) {
+                for (String to : beside(pegs, from)) {
+                    if (seen.get(to) == -1) {
+                        seen.put(to, moves);
+                        next.add(to);
+                    }
+                }
+            }
+            edge = next;
+        }
+        Check.due("there are triangles on " + w + " " + h, seen.size() > 20, true);
+        for (String to : seen.keySet()) {
+            String text = "board " + w + " " + h + ";" + outs + "bell;band a " + told(first) + ";band b " + told(to) + ";";
+            Check.due("from " + first + " to " + to, moved(text, 0, 1), seen.get(to));
+            Check.due("from " + to + " to " + first, moved(text, 1, 0), seen.get(to));
+        }
+    }
+
+    /** Three pegs as they rise, as a text, if they are pegs and not in one line. */
+    private static String three(boolean[] pegs, int a, int b, int c) {
+        int low = Math.min(a, Math.min(b, c));
+        int high = Math.max(a, Math.max(b, c));
+        int middle = a + b + c - low - high;
+        boolean inLine = (middle % 10 - low % 10) * (high / 10 - low / 10) == (middle / 10 - low / 10) * (high % 10 - low % 10);
+        boolean arePegs = low >= 0 && high < 100 && pegs[low] && pegs[middle] && pegs[high];
+        return inLine || !arePegs ? null : low + " " + middle + " " + high;
+    }
+
+    private static List<String> beside(boolean[] pegs, String three) {
+        List<String> found = new ArrayList<>();
+        for (int i = 0; i < 12; i++) {
+            String[] s = three.split(" ");
+            int[] p = {Integer.parseInt(s[0]), Integer.parseInt(s[1]), Integer.parseInt(s[2])};
+            int at = p[i % 3];
+            boolean isOverEdge = i / 3 == 0 && at % 10 == 0 || i / 3 == 1 && at % 10 == 9;
+            p[i % 3] = at + new int[] {-1, 1, -10, 10}[i / 3];
+            String next = isOverEdge ? null : three(pegs, p[0], p[1], p[2]);
+            if (next != null) {
+                found.add(next);
+            }
+        }
+        return found;
+    }
+
+    /** Peg numbers as X Y X Y X Y. */
+    private static String told(String pegs) {
+        StringBuilder s = new StringBuilder();
+        for (String peg : pegs.split(" ")) {
+            int at = Integer.parseInt(peg);
+            s.append(s.length() == 0 ? "" : " ").append(at % 10).append(' ').append(at / 10);
+        }
+        return s.toString();
+    }
+
     private static void gamePegs() {
         Check.part("Terms 3, the GAME on a BOARD of 9 PEGS at most (those out left out)");
         Check.due("9 pegs", Check.on("board 3 3;").lines(-1), 28);
@@ -242,6 +390,16 @@ public final class EdgePlayTest {
         PegBands x = Check.on("board 7 3;" + twelve + "out 4 2;");
         Check.due("9 pegs of 21", x.lines(-1) > 0, true);
         Check.due("line", x.line(10, 11), true);
+        // Far down the board: eight pegs in the last four rows of ten.
+        PegBands far = Check.on("board 2 10;out 0 0;out 1 0;out 0 1;out 1 1;out 0 2;out 1 2;out 0 3;out 1 3;out 0 4;out 1 4;out 0 5;out 1 5;");
+        Check.due("8 pegs of 20", far.lines(-1), 22);
+        Check.due("the last line", far.lines(21), 9091);
+        Check.due("crossed by none", far.line(90, 81), true);
+        Check.due("it lies", far.line(80, 91), false);
+        Check.due("it lies", far.line(80, 90), false);
+        Check.due("above it", far.line(80, 71), true);
+        Check.due("the third", far.line(61, 70), true);
+        Check.due("beside it", far.lines(-1), 0);
     }
 
     private static void gameEnds() {
@@ -288,6 +446,14 @@ public final class EdgePlayTest {
         Check.due("lay", x.line(0, 1), true);
         Check.due("none can be laid", x.lines(-1), 0);
         Check.due("by none", x.wins(), -1);
+        // Played to the end by another program.
+        String[] boards = {"3 3", "2 4", "5 2;out 4 1", "5 2;out 2 0", "3 3;out 1 1", "3 3;out 0 0", "3 3;out 1 0",
+            "4 3;out 0 0;out 3 0;out 0 2", "4 3;out 0 0;out 3 2;out 0 2", "4 3;out 0 0;out 1 1;out 2 1",
+            "2 10;out 0 0;out 1 0;out 0 1;out 1 1;out 0 2;out 1 2;out 0 3;out 1 3;out 0 4;out 1 4;out 0 5;out 1 5"};
+        int[] wins = {-1, 11, -1, -1, -1, 112, 12, 223, 210, 213, 6071};
+        for (int i = 0; i < boards.length; i++) {
+            Check.due("board " + boards[i], Check.on("board " + boards[i] + ";").wins(), wins[i]);
+        }
         PegBands one = Check.on("board 2 2;out 1 1;out 0 1;out 1 0;");
         Check.due("one peg", one.lines(-1), 0);
         Check.due("one peg, by none", one.wins(), -1);
@@ -452,6 +618,11 @@ public final class EdgePlayTest {
         PegBands x = Check.on(FOUR);
         said(x, "bent" + " or bent".repeat(19), 20, "3");
         said(x, "bent" + " and bent".repeat(19), 20, "3");
+        // Each counts, the last one too.
+        said(x, "on<1 or ".repeat(19) + "bent", 20, "3");
+        said(x, "bent or " + "on<1 or ".repeat(18) + "on<1", 20, "3");
+        said(x, "on>1 and ".repeat(19) + "bent", 20, "3");
+        said(x, "on>1 and ".repeat(19) + "on<1", 20, "");
         said(x, "not bent" + " or not bent".repeat(9), 20, "012");
         said(x, "(bent)" + " or (bent)".repeat(9), 20, "3");
         bad("bent" + " or bent".repeat(20), 160, 4);
@@ -540,6 +711,11 @@ public final class EdgePlayTest {
         // It is told by none, but things are said of it.
         said(x, "in a", 1, "1");
         said(x, "alike a", 1, "0");
+        // A name that was never told is not its name.
+        Check.due("no such band", Check.sentence(x, "alike nobody"), -7);
+        Check.due("fault", x.fault(), 3);
+        Check.due("no such band", Check.sentence(x, "in b"), -4);
+        Check.due("fault", x.fault(), 3);
         Check.due("snap the one with a name", x.snap(0), 33);
         Check.due("said of none", saidNow(x), "");
         Check.due("its number is 0 now, and a is no name of it", Check.sentence(x, "alike a"), -7);

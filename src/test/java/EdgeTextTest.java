@@ -31,6 +31,7 @@ public final class EdgeTextTest {
         callsAt();
         callsN();
         callsBy();
+        lineKinds();
         firstAlong();
         leastOfOneToken();
         atTheEnd();
@@ -425,6 +426,22 @@ public final class EdgeTextTest {
         badCalls(AT + "by 1 0;by 1 0; ", 22, 1);
         badCalls(AT + "by 1 0;".repeat(9), 63, 4);
         badCalls(AT + "by 1 0;".repeat(10), 63, 4);
+    }
+
+    private static void lineKinds() {
+        Check.part("Terms 1, { LINE ; }: 'bell', 'out' or 'band', and a ; behind each");
+        bad(HEAD + ";", 10, 1);
+        bad(HEAD + "bell;;", 15, 1);
+        bad(HEAD + "board 5 5;", 10, 1);
+        bad(HEAD + "at 0 0;", 10, 1);
+        bad(HEAD + "a 0 0 1 0 0 1;", 10, 1);
+        bad(HEAD + "5;", 10, 1);
+        bad(HEAD + "bell out 4 4;", 15, 1);
+        bad(HEAD + "out 4 4 3 3;", 18, 1);
+        bad(HEAD + "bell 1;", 15, 1);
+        badCalls(GOOD_CALLS + ";", 30, 1);
+        badCalls("at 0 0;;", 7, 1);
+        badCalls("at 0 0 by 1 0;", 7, 1);
     }
 
     private static void firstAlong() {
